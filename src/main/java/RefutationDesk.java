@@ -787,10 +787,13 @@ public final class RefutationDesk {
         private final int[] terms = new int[2 * MOST_WEIGHT];
 
         boolean drawFactor(Clause c, int i, int j, Draft draft) {
-            load(c, 0);
             int p = c.starts[i];
             int q = c.starts[j];
-            if (work[p] != work[q] || !areAlike(p, q, 0)) {
+            if (c.codes[p] != c.codes[q]) {
+                return false;
+            }
+            load(c, 0);
+            if (!areAlike(p, q, 0)) {
                 return false;
             }
             draft.begin();
@@ -800,11 +803,14 @@ public final class RefutationDesk {
         }
 
         boolean drawResolvent(Clause c, int i, Clause d, int j, Draft draft) {
+            int p = c.starts[i];
+            int q = d.starts[j];
+            if ((c.codes[p] ^ d.codes[q]) != DENIED) {
+                return false;
+            }
             load(c, 0);
             load(d, MOST_WEIGHT);
-            int p = c.starts[i];
-            int q = MOST_WEIGHT + d.starts[j];
-            if ((work[p] ^ work[q]) != DENIED || !areAlike(p, q, 0)) {
+            if (!areAlike(p, MOST_WEIGHT + q, 0)) {
                 return false;
             }
             draft.begin();
@@ -918,7 +924,6 @@ public final class RefutationDesk {
         private final int[] terms = new int[MOST_BOUND];
         /** The literal of C by which the term was put. */
         private final int[] since = new int[MOST_BOUND];
-
         /** The literal of D on which each literal of C lies. */
         private final int[] picked = new int[MOST_LITERALS];
 

@@ -1,15 +1,19 @@
+import java.util.List;
 import java.util.Random;
 
 /** The same calls, many of them, go to RefutationDesk and to PlainDesk; all answers must agree. */
 public final class OracleTest {
-    private static final int RUNS = 1500;
+    private static final int RUNS = 3000;
 
     private final Check check = new Check();
     private final Random random = new Random(20261115);
     private RefutationDesk desk;
     private PlainDesk plain;
-    private String trail;
-    private int vocabulary;
+    private StringBuilder trail;
+    private Talk talk;
+
+    /** How the texts of a run are made: the kinds of symbols lead to different ends. */
+    private enum Talk { LETTERS, RELATION, MIXED, NESTED, CLAUSES, WIDE, MANY }
 
     public static void main(String[] args) {
         OracleTest test = new OracleTest();
@@ -22,8 +26,8 @@ public final class OracleTest {
     private void oneRun(int run) {
         desk = new RefutationDesk();
         plain = new PlainDesk();
-        trail = "run " + run + ":";
-        vocabulary = run % 4;
+        trail = new StringBuilder("run " + run + ":");
+        talk = Talk.values()[run % Talk.values().length];
         int calls = 20 + random.nextInt(60);
         for (int n = 0; n < calls; n++) {
             oneCall();
@@ -33,28 +37,34 @@ public final class OracleTest {
 
     private void agree(String what, Check.Call real, Check.Call due) {
         String answer = Check.outcome(real);
-        trail = trail + "\n  " + what + " -> " + answer;
-        check.same(trail, answer, Check.outcome(due));
+        String dueAnswer = Check.outcome(due);
+        trail.append("\n  ").append(what).append(" -> ").append(answer);
+        if (!answer.equals(dueAnswer)) {
+            check.same(trail.toString(), answer, dueAnswer);
+        }
     }
 
     private void type(String text) {
         for (int from = 0; from < text.length(); from += 8) {
-            long more = Check.packed(text.substring(from, Math.min(from + 8, text.length())));
-            agree("type " + text, () -> desk.type(more), () -> plain.type(more));
+            String part = text.substring(from, Math.min(from + 8, text.length()));
+            long more = Check.packed(part);
+            agree("type " + part, () -> desk.type(more), () -> plain.type(more));
         }
     }
 
     private void oneCall() {
         int what = random.nextInt(100);
-        if (what < 30) {
+        if (what < 26) {
             assume();
-        } else if (what < 45) {
+        } else if (what < 40) {
             agree("step", () -> desk.step(), () -> plain.step());
-        } else if (what < 53) {
-            int n = random.nextInt(12) - 1;
+        } else if (what < 48) {
+            int n = random.nextInt(talk == Talk.MANY ? 52 : 12) - 1;
             agree("run " + n, () -> desk.run(n), () -> plain.run(n));
+        } else if (what < 58) {
+            claimRow();
         } else if (what < 80) {
-            claim();
+            claimDrawn();
         } else {
             look();
         }
@@ -63,25 +73,63 @@ public final class OracleTest {
     }
 
     private void assume() {
-        type(spoiled(formula(1 + random.nextInt(6), "")));
-        boolean denied = random.nextBoolean();
+        boolean asClause = talk == Talk.CLAUSES || talk == Talk.WIDE || talk == Talk.MANY;
+        type(spoiled(asClause ? closedClause() : formula(1 + random.nextInt(6), "")));
+        boolean denied = !asClause && random.nextBoolean();
         agree("assume " + denied, () -> desk.assume(denied), () -> plain.assume(denied));
         wipeSometimes();
     }
 
-    private void claim() {
-        boolean byRow = random.nextInt(3) == 0;
-        int a = byRow ? -1 : index(desk.figure(8));
-        int i = byRow ? index(desk.figure(0)) : index(2);
-        int b = random.nextInt(4) == 0 ? -1 : index(desk.figure(8));
-        int j = index(2);
-        type(spoiled(clauseText(byRow ? i : NOT_SAID)));
+    private void claimRow() {
+        int i = index(desk.figure(0));
+        boolean isThere = i >= 0 && i < desk.figure(0);
+        if (isThere) {
+            agree("print " + i, () -> desk.print(false, i), () -> plain.print(false, i));
+        }
+        String ground = isThere ? Check.clauseText(desk, i) : literals("xyz");
+        claim(ground, -1, i, index(3), index(3));
+    }
+
+    /** Looks for literals that can be made alike, so that many claims are right. */
+    private void claimDrawn() {
+        int count = desk.figure(8);
+        for (int n = 0; n < 20 && count > 0; n++) {
+            int a = random.nextInt(count);
+            int b = random.nextInt(3) == 0 ? -1 : random.nextInt(count);
+            int i = random.nextInt(4);
+            int j = random.nextInt(4);
+            try {
+                List<PlainDesk.Literal> drawn = plain.ground(a, i, b, j);
+                if (drawn != null) {
+                    claim(PlainDesk.textOf(drawn), a, i, b, j);
+                    return;
+                }
+            } catch (IndexOutOfBoundsException e) {
+                continue;
+            }
+        }
+        claim(literals("xyz"), index(count), index(2), random.nextInt(3) - 1, index(2));
+    }
+
+    private void claim(String ground, int a, int i, int b, int j) {
+        type(spoiled(changed(ground)));
         agree("claim " + a + " " + i + " " + b + " " + j,
                 () -> desk.claim(a, i, b, j), () -> plain.claim(a, i, b, j));
         wipeSometimes();
     }
 
-    private static final int NOT_SAID = -5;
+    /** An instance, a clause with more or with other literals, or the same. */
+    private String changed(String clause) {
+        switch (random.nextInt(9)) {
+            case 0: return clause.replace('x', 'a');
+            case 1: return clause.replace('y', 'x');
+            case 2: return clause.equals("0") ? literals("xyz") : clause + "|" + atom("xyz");
+            case 3: return clause.equals("0") ? clause : clause + "|" + clause;
+            case 4: return clause.replace('a', 'b');
+            case 5: return clause.replace("x", "f(y)");
+            default: return clause;
+        }
+    }
 
     private void wipeSometimes() {
         if (random.nextInt(8) != 0) {
@@ -111,30 +159,36 @@ public final class OracleTest {
             agree("figure " + w, () -> desk.figure(w), () -> plain.figure(w));
         }
         for (int k = 0; k < desk.figure(0); k++) {
+            compareText(false, k);
             int n = k;
-            agree("print " + n, () -> desk.print(false, n), () -> plain.print(false, n));
-            for (int i = 0; i < 130; i++) {
-                int at = i;
-                if (!Check.outcome(() -> desk.out(at)).equals(Check.outcome(() -> plain.out(at)))) {
-                    agree("out " + at, () -> desk.out(at), () -> plain.out(at));
-                }
-            }
             for (int what = 0; what <= 7; what++) {
                 int w = what;
                 agree("clause " + n + " " + w, () -> desk.clause(n, w), () -> plain.clause(n, w));
             }
         }
         for (int k = 0; k < desk.figure(8); k++) {
-            int n = k;
-            agree("print line " + n, () -> desk.print(true, n), () -> plain.print(true, n));
+            compareText(true, k);
         }
         agree("proof", () -> desk.proof(), () -> plain.proof());
+    }
+
+    private void compareText(boolean line, int k) {
+        agree("print " + line + " " + k, () -> desk.print(line, k), () -> plain.print(line, k));
+        int length = plain.print(line, k);
+        for (int i = 0; i <= length; i++) {
+            int place = i;
+            agree("out " + i, () -> desk.out(place), () -> plain.out(place));
+        }
     }
 
     /** Mostly one that is there, sometimes one just outside. */
     private int index(int count) {
         return random.nextInt(12) == 0 ? random.nextInt(count + 4) - 2
                 : random.nextInt(Math.max(1, count));
+    }
+
+    private char pick(String letters) {
+        return letters.charAt(random.nextInt(letters.length()));
     }
 
     private String formula(int depth, String bound) {
@@ -153,22 +207,57 @@ public final class OracleTest {
         }
     }
 
-    private char pick(String letters) {
-        return letters.charAt(random.nextInt(letters.length()));
+    /** A text that with others like it has very many consequences, none of them empty. */
+    private String manyClause() {
+        String fact = "P(" + term("", 0) + "," + term("", 0) + ")";
+        switch (random.nextInt(4)) {
+            case 0: return "!x!y!z>&P(x,y)P(y,z)P(x,z)";
+            case 1: return "&" + fact + "P(" + term("", 0) + "," + term("", 0) + ")";
+            default: return fact;
+        }
+    }
+
+    private String closedClause() {
+        if (talk == Talk.MANY) {
+            return manyClause();
+        }
+        StringBuilder text = new StringBuilder("!x!y!z");
+        int more = random.nextInt(4);
+        text.append("|".repeat(more));
+        for (int n = 0; n <= more; n++) {
+            text.append(random.nextBoolean() ? "~" : "").append(atom("xyz"));
+        }
+        return text.toString();
+    }
+
+    private String literals(String variables) {
+        StringBuilder text = new StringBuilder();
+        int count = 1 + random.nextInt(5);
+        for (int n = 0; n < count; n++) {
+            text.append(n == 0 ? "" : "|").append(random.nextBoolean() ? "~" : "");
+            text.append(atom(variables));
+        }
+        return text.toString();
     }
 
     private String atom(String variables) {
-        if (vocabulary == 0) {
+        if (talk == Talk.LETTERS) {
             return "" + pick("PQRSTU");
         }
-        char name = pick(vocabulary == 1 ? "P" : "PPQR");
-        if (name == 'R') {
-            return "R";
+        char name = pick(talk == Talk.RELATION ? "P" : "PPQR");
+        int count = name == 'R' ? 0 : name == 'Q' || random.nextInt(12) == 0 ? 1 : 2;
+        if (talk == Talk.WIDE && name == 'P') {
+            count = 3 + random.nextInt(2);
         }
-        if (name == 'Q' || random.nextInt(12) == 0) {
-            return name + "(" + term(variables, 2) + ")";
+        return name + terms(count, variables, talk == Talk.WIDE ? 1 : 2);
+    }
+
+    private String terms(int count, String variables, int depth) {
+        StringBuilder text = new StringBuilder();
+        for (int n = 0; n < count; n++) {
+            text.append(n == 0 ? "(" : ",").append(term(variables, depth));
         }
-        return name + "(" + term(variables, 2) + "," + term(variables, 2) + ")";
+        return text.append(count == 0 ? "" : ")").toString();
     }
 
     private String term(String variables, int depth) {
@@ -176,46 +265,18 @@ public final class OracleTest {
             return "" + pick(variables);
         }
         if (depth == 0 || random.nextInt(2) == 0) {
-            return pick("ab") + (random.nextInt(10) == 0 ? "1" : "");
+            return pick(talk == Talk.MANY ? "abcdefghijk" : "ab")
+                    + (random.nextInt(10) == 0 ? "1" : "");
         }
-        if (random.nextInt(vocabulary == 3 ? 2 : 6) == 0) {
-            return "g(" + term(variables, depth - 1) + "," + term(variables, depth - 1) + ")";
+        if (random.nextInt(talk == Talk.NESTED || talk == Talk.WIDE ? 2 : 6) == 0) {
+            return "g" + terms(2, variables, depth - 1);
         }
-        return "f(" + term(variables, depth - 1) + ")";
-    }
-
-    /** A clause that is likely to be subsumed: one that is there, an instance of it, or another. */
-    private String clauseText(int row) {
-        int kind = random.nextInt(8);
-        if (kind == 0) {
-            return "0";
-        }
-        int count = desk.figure(0);
-        if (kind < 7 && count > 0) {
-            int k = row >= 0 && row < count && kind < 6 ? row : random.nextInt(count);
-            String text = Check.clauseText(desk, k);
-            plain.print(false, k);
-            if (kind == 5) {
-                text = text.replace('x', 'a');
-            } else if (kind == 6) {
-                text = text + "|" + atom("xyz");
-            } else if (kind == 4) {
-                text = text.replace('y', 'x');
-            }
-            return text;
-        }
-        StringBuilder text = new StringBuilder();
-        int literals = 1 + random.nextInt(5);
-        for (int n = 0; n < literals; n++) {
-            text.append(n == 0 ? "" : "|").append(random.nextBoolean() ? "~" : "");
-            text.append(atom("xyz"));
-        }
-        return text.toString();
+        return "f" + terms(1, variables, depth - 1);
     }
 
     /** Now and then a character is changed, left out or put in. */
     private String spoiled(String text) {
-        if (random.nextInt(6) != 0) {
+        if (random.nextInt(8) != 0) {
             return text;
         }
         int k = random.nextInt(text.length() + 1);

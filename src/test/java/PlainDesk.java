@@ -4,6 +4,7 @@ import java.util.LinkedHashMap;
 import java.util.LinkedHashSet;
 import java.util.List;
 import java.util.Map;
+import java.util.Objects;
 import java.util.TreeSet;
 
 /**
@@ -216,13 +217,16 @@ final class PlainDesk {
         if (k < 0 || k >= (line ? lines.size() : kept.size())) {
             throw new IndexOutOfBoundsException();
         }
-        List<Literal> shown = line ? lines.get(k) : kept.get(k).literals;
+        out = textOf(line ? lines.get(k) : kept.get(k).literals);
+        return out.length();
+    }
+
+    static String textOf(List<Literal> clause) {
         List<String> texts = new ArrayList<>();
-        for (Literal l : shown) {
+        for (Literal l : clause) {
             texts.add(l.toString());
         }
-        out = shown.isEmpty() ? "0" : String.join("|", texts);
-        return out.length();
+        return clause.isEmpty() ? "0" : String.join("|", texts);
     }
 
     char out(int i) {
@@ -276,37 +280,46 @@ final class PlainDesk {
             at = w.place;
             throw new IllegalArgumentException();
         }
-        List<Literal> ground;
-        if (a == -1) {
-            if (i < 0 || i >= kept.size() || kept.get(i).kind != 0) {
-                throw new IndexOutOfBoundsException();
-            }
-            ground = kept.get(i).literals;
-        } else if (b == -1) {
-            lines.get(java.util.Objects.checkIndex(a, lines.size()));
-            lines.get(a).get(java.util.Objects.checkIndex(i, lines.get(a).size()));
-            lines.get(a).get(java.util.Objects.checkIndex(j, lines.get(a).size()));
-            if (i == j) {
-                throw new IndexOutOfBoundsException();
-            }
-            ground = factor(lines.get(a), i, j);
-        } else {
-            lines.get(java.util.Objects.checkIndex(a, lines.size()));
-            lines.get(java.util.Objects.checkIndex(b, lines.size()));
-            lines.get(a).get(java.util.Objects.checkIndex(i, lines.get(a).size()));
-            lines.get(b).get(java.util.Objects.checkIndex(j, lines.get(b).size()));
-            ground = resolvent(lines.get(a), i, lines.get(b), j);
-        }
+        List<Literal> ground = ground(a, i, b, j);
         if (!fits(clause) || lines.size() == 24) {
             throw new IllegalStateException();
         }
         at = -1;
         text = "";
-        if (ground == null || !subsumes(normal(ground), clause)) {
+        if (ground == null || !subsumes(ground, clause)) {
             return -1;
         }
         lines.add(clause);
         return lines.size() - 1;
+    }
+
+    /** What must subsume a claim, made normal; null when literals cannot be made alike. */
+    List<Literal> ground(int a, int i, int b, int j) {
+        if (a == -1) {
+            if (i < 0 || i >= kept.size() || kept.get(i).kind != 0) {
+                throw new IndexOutOfBoundsException();
+            }
+            return kept.get(i).literals;
+        }
+        List<Literal> drawn;
+        if (b == -1) {
+            needLiteral(a, i);
+            needLiteral(a, j);
+            if (i == j) {
+                throw new IndexOutOfBoundsException();
+            }
+            drawn = factor(lines.get(a), i, j);
+        } else {
+            needLiteral(a, i);
+            needLiteral(b, j);
+            drawn = resolvent(lines.get(a), i, lines.get(b), j);
+        }
+        return drawn == null ? null : normal(drawn);
+    }
+
+    private void needLiteral(int line, int literal) {
+        Objects.checkIndex(line, lines.size());
+        Objects.checkIndex(literal, lines.get(line).size());
     }
 
     int figure(int what) {
