@@ -9,6 +9,7 @@ public final class StepTest {
         orderOfDrawing();
         factors();
         withItself();
+        notAlike();
         tooHeavy();
         theEmptyOneEnds();
         runs();
@@ -162,6 +163,12 @@ public final class StepTest {
         Check.assume(shared, "!x!y||R(x,y)R(y,f(x))Q(x)");
         shared.step();
         check.same("a variable is not in its own term", shared.figure(0), 1);
+        check.same("so nothing is left out", shared.figure(4), 0);
+
+        RefutationDesk same = new RefutationDesk();
+        Check.assume(same, "!x!y|R(x,y)R(x,f(x))");
+        same.step();
+        check.same("a variable is alike itself", Check.clauseText(same, 1), "R(x,f(x))");
     }
 
     private static void withItself() {
@@ -210,6 +217,21 @@ public final class StepTest {
         Check.assume(grown, "!x!y>P(x,y)|S(y,y,y)U(y,y)");
         grown.run(2);
         check.same("weight 17 of two", grown.figure(4), 2);
+    }
+
+    private static void notAlike() {
+        RefutationDesk desk = new RefutationDesk();
+        Check.assume(desk, "&P(a)&~P(b)&~P(a,a)&~Q(a)!x~P(f(x))");
+        check.same("steps", desk.run(50), 5);
+        check.same("nothing is drawn", desk.figure(0), 5);
+        check.same("nothing is known", desk.figure(6), 0);
+        check.same("saturated", desk.state(), RefutationDesk.SATURATED);
+
+        RefutationDesk own = new RefutationDesk();
+        Check.assume(own, "&!xP(x,x)!x~P(x,f(x))");
+        check.same("steps", own.run(50), 2);
+        check.same("a variable is not in its own term", own.state(), RefutationDesk.SATURATED);
+        check.same("clauses", own.figure(0), 2);
     }
 
     private static void theEmptyOneEnds() {
