@@ -1,23 +1,26 @@
 /** Counts the answers that are not as due, and says them; shared by all tests. */
 final class Check {
     private int wrong = 0;
+    private String about = "";
 
     /** A call of the desk that may throw. */
     interface Call {
         long answer();
     }
 
+    /** The words of the document that the checks behind this call look at. */
+    void words(String quoted) {
+        about = "'" + quoted + "': ";
+    }
+
     void same(String what, long got, long due) {
-        if (got != due) {
-            wrong++;
-            System.out.println(what + " answered " + got + ", due is " + due);
-        }
+        same(what, Long.toString(got), Long.toString(due));
     }
 
     void same(String what, String got, String due) {
         if (!got.equals(due)) {
             wrong++;
-            System.out.println(what + " answered " + got + ", due is " + due);
+            System.out.println(about + what + " answered " + got + ", due is " + due);
         }
     }
 

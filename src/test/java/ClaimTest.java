@@ -185,6 +185,13 @@ public final class ClaimTest {
         claims(desk, "A(f(f(f(a))))|C|D|E", 0, 2, 1, 0, 2);
         claims(desk, "A(f(f(f(a))))|C|D", 0, 2, 1, 0, -1);
         claims(desk, "A(f(f(a)))|C|D|E", 0, 2, 1, 0, -1);
+        RefutationDesk both = desk("!x!y!z!x1!y1!z1|PQ(x,y,z,x1,y1,z1)",
+                "!x!y!z!x1!y1!z1|~PQ(x,y,z,x1,y1,z1)");
+        claims(both, "P|Q(x,x1,x2,x3,x4,x5)|Q(y,y1,y2,y3,y4,y5)", -1, 0, 0, 0, 0);
+        claims(both, "~P|Q(x,x1,x2,x3,x4,x5)|Q(y,y1,y2,y3,y4,y5)", -1, 1, 0, 0, 1);
+        claims(both, "Q(a,a,a,a,a,a)|A|B|C", 0, 0, 1, 0, 2);
+        claims(both, "Q(a,b,c,d,e,f)|A|Q(x,b,c,d,e,f)|C", 0, 0, 1, 0, 3);
+        claims(both, "Q(a,a,a,a,a,a)|A|B", 0, 0, 1, 0, -1);
     }
 
     private static void madeAlike() {

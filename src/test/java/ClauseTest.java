@@ -128,6 +128,12 @@ public final class ClauseTest {
         subsumes("!x!y!z|||P(x)P(y)P(z)Q(x,y,z)", "|||P(a)P(b)P(c)Q(c,a,b)", true);
         subsumes("!x!y!z|||P(x)P(y)P(z)Q(x,y,z)", "|||P(a)P(b)P(c)Q(c,a,d)", false);
         subsumes("!x|P(x)~P(f(x))", "||~P(f(b))P(a)~P(f(a))", true);
+        subsumes("!xP(x,a)", "|P(b,c)P(d,a)", true);
+        subsumes("!x!yP(x,a,y)", "||P(b,c,d)P(d,e,b)P(c,a,a)", true);
+        subsumes("!x|P(x)Q(x)", "|Q(f(f(a)))P(a)", false);
+        subsumes("!x|P(x)Q(x)", "|Q(f(f(a)))P(f(f(a)))", true);
+        subsumes("!xP(x,x)", "P(a,f(a))", false);
+        subsumes("!xP(x,x)", "P(f(a),a)", false);
         RefutationDesk desk = new RefutationDesk();
         Check.assume(desk, "&PQ");
         check.refuses("-1, 0", IndexOutOfBoundsException.class, () -> isSubsumed(desk, -1, 0));

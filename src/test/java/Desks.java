@@ -33,4 +33,82 @@ final class Desks {
         }
         return desk;
     }
+
+    /** Open: rows, drawn clauses, functions, lines, OUT; and AT is 2. Four clauses are rows. */
+    static RefutationDesk open() {
+        RefutationDesk desk = new RefutationDesk();
+        Check.assume(desk, "&!x>H(x)M(x)H(a)");
+        Check.deny(desk, "&?xQ(x)M(a)");
+        Check.assume(desk, "?xR(x,b)");
+        Check.assume(desk, "&|P~P&H(a)||||ABCDE");
+        desk.run(3);
+        Check.claim(desk, "~H(x)|M(x)", -1, 0, 0, 0);
+        Check.claim(desk, "H(a)", -1, 1, 0, 0);
+        Check.claim(desk, "M(a)", 0, 0, 1, 0);
+        return shown(desk);
+    }
+
+    /** As open(), but the empty clause is kept. */
+    static RefutationDesk refuted() {
+        RefutationDesk desk = open();
+        Check.assume(desk, "&S~S");
+        desk.run(50);
+        return shown(desk);
+    }
+
+    /** None waits, and none was left out. */
+    static RefutationDesk saturated() {
+        RefutationDesk desk = new RefutationDesk();
+        Check.assume(desk, "&H(a)?xQ(x)");
+        desk.run(50);
+        Check.claim(desk, "H(a)", -1, 0, 0, 0);
+        return shown(desk);
+    }
+
+    /** None waits, and one was left out. */
+    static RefutationDesk exhausted() {
+        RefutationDesk desk = saturated();
+        Check.assume(desk, "||||ABCDE");
+        return shown(desk);
+    }
+
+    /** 100 clauses are kept, and there was one more. */
+    static RefutationDesk full() {
+        RefutationDesk desk = with(100);
+        Check.claim(desk, "P(a)", -1, 0, 0, 0);
+        Check.assume(desk, "H(a)");
+        return shown(desk);
+    }
+
+    /** Clause 0 is H(a), and so are all of the 24 lines. */
+    static RefutationDesk withAllLines() {
+        RefutationDesk desk = new RefutationDesk();
+        Check.assume(desk, "H(a)");
+        for (int n = 0; n < 24; n++) {
+            Check.claim(desk, "H(a)", -1, 0, 0, 0);
+        }
+        return shown(desk);
+    }
+
+    /** So many functions were made, at most 99; the clauses are P($10) and so on, and Q. */
+    static RefutationDesk withFunctions(int functions) {
+        RefutationDesk desk = new RefutationDesk();
+        for (int n = 0; n < functions / 10; n++) {
+            Check.assume(desk, "?x".repeat(10) + "P(x)");
+        }
+        Check.assume(desk, "?x".repeat(functions % 10) + "Q");
+        return desk;
+    }
+
+    private static RefutationDesk shown(RefutationDesk desk) {
+        desk.print(false, 0);
+        Check.outcome(() -> Check.assume(desk, "&P"));
+        desk.wipe();
+        return desk;
+    }
+
+    static RefutationDesk typed(RefutationDesk desk, String text) {
+        Check.type(desk, text);
+        return desk;
+    }
 }
