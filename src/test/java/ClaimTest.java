@@ -23,7 +23,8 @@ public final class ClaimTest {
         return desk;
     }
 
-    private static void claims(RefutationDesk desk, String text, int a, int i, int b, int j, int due) {
+    private static void claims(RefutationDesk desk, String text, int a, int i, int b, int j,
+            int due) {
         check.same("claim " + text + " " + a + " " + i + " " + b + " " + j,
                 Check.outcome(() -> Check.claim(desk, text, a, i, b, j)), Integer.toString(due));
         check.same("the text is wiped", desk.wipe(), 0);

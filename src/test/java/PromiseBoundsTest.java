@@ -163,12 +163,12 @@ public final class PromiseBoundsTest {
     private static void assumedTooMuch() {
         check.words("it has more than 16 rows");
         String sixteen = "|&AB|&CD|&EF&GH";
-        String fifteen = "&A&B&C&D&E&F&G&H&IJ";
+        String ten = "&A&B&C&D&E&F&G&H&IJ";
         check.same("16, of |", Check.assume(desk(), sixteen), 16);
         check.refuses("17, of & and |", STATE, () -> Check.assume(desk(), "&I" + sixteen));
         check.refuses("32", STATE, () -> Check.assume(desk(), "|&IJ" + sixteen));
-        check.same("16, of &", Check.assume(desk(), "&" + fifteen + "&K&L&M&N&OP"), 16);
-        check.refuses("17, of &", STATE, () -> Check.assume(desk(), "&" + fifteen + "&K&L&M&N&O&PQ"));
+        check.same("16, of &", Check.assume(desk(), "&" + ten + "&K&L&M&N&OP"), 16);
+        check.refuses("17, of &", STATE, () -> Check.assume(desk(), "&" + ten + "&K&L&M&N&O&PQ"));
         check.same("16 denied", Check.deny(desk(), "&|AB&|CD&|EF|GH"), 16);
         check.refuses("17 denied", STATE, () -> Check.deny(desk(), "|I&|AB&|CD&|EF|GH"));
         check.same("17, but four denied", Check.deny(desk(), "&I" + sixteen), 4);
@@ -227,7 +227,7 @@ public final class PromiseBoundsTest {
         desk.wipe();
         check.same("an assume that keeps none", Check.assume(desk, "P"), 0);
         check.same("none since", desk.at(), -1);
-        check.words("AT of the latest text that assume() or claim() refused by an illegal argument");
+        check.words("the latest text that assume() or claim() refused by an illegal argument");
         check.refuses("claim", ARGUMENT, () -> Check.claim(desk, "P|(", -1, 0, 0, 0));
         check.same("of claim", desk.at(), 2);
         check.refuses("assume of the same text", ARGUMENT, () -> desk.assume(true));
@@ -401,8 +401,8 @@ public final class PromiseBoundsTest {
     }
 
     private static void subsumes() {
-        check.words("Whether clause k subsumes clause m. IndexOutOfBoundsException: there is no such"
-                + " clause.");
+        check.words("Whether clause k subsumes clause m."
+                + " IndexOutOfBoundsException: there is no such clause.");
         RefutationDesk desk = desk("P", "~P");
         desk.run(50);
         check.same("the empty one all", desk.subsumes(2, 0) && desk.subsumes(2, 2) ? 1 : 0, 1);
@@ -425,7 +425,7 @@ public final class PromiseBoundsTest {
     }
 
     private static void proof() {
-        check.words("How many clauses there are, itself too, of which the empty one comes;");
+        check.words("How many clauses there are, itself too, of which the empty one comes");
         RefutationDesk least = desk("P", "~P");
         least.run(50);
         check.same("the least", least.proof(), 3);
@@ -501,8 +501,8 @@ public final class PromiseBoundsTest {
         check.same("1 with 0", Check.claim(desk, "Q|R", 1, 0, 0, 0), 4);
         check.same("a line with itself", Check.claim(desk, "~S(f(f(x)))|S(x)", 2, 0, 2, 1), 5);
         check.same("i may be j", Check.claim(desk, "Q|R", 0, 0, 1, 0), 6);
-        check.words("NONE when that is not so (also when there is no such factor or resolvent, as the"
-                + " literals can not be made alike)");
+        check.words("NONE when that is not so (also when there is no such factor or resolvent,"
+                + " as the literals can not be made alike)");
         check.same("both without ~", Check.claim(desk, "Q|R", 0, 1, 1, 1), NONE);
         check.same("other letters", Check.claim(desk, "P|R", 0, 1, 1, 0), NONE);
         check.same("a literal with itself", Check.claim(desk, "P|Q", 0, 0, 0, 0), NONE);

@@ -47,7 +47,8 @@ public final class SearchBoundsTest {
     }
 
     private static void rowsOfPairs() {
-        check.words("for each row of F, for each of G: the literals of the first, then of the second");
+        check.words("for each row of F, for each of G:"
+                + " the literals of the first, then of the second");
         row("|&AB&CD", "A|C A|D B|C B|D");
         row("|A&BC", "A|B A|C");
         row("|&ABC", "A|C B|C");
@@ -65,8 +66,8 @@ public final class SearchBoundsTest {
     }
 
     private static void newFunctions() {
-        check.words("1 more than were made before (they are made in the order in which their ! and ?"
-                + " stand)");
+        check.words("1 more than were made before"
+                + " (they are made in the order in which their ! and ? stand)");
         row("&?xP(x)?xQ(x)", "P($1) Q($2)");
         row(">!xP(x)?xQ(x)", "~P($1)|Q($2)");
         row("?x&?yP(x,y)?yQ(x,y)", "P($1,$2) Q($1,$3)");
@@ -75,7 +76,7 @@ public final class SearchBoundsTest {
         denied("!x?yP(x,y)", "~P($1,x)");
         RefutationDesk desk = desk("?xP(x)", "!xP(x)", "?xQ(x)");
         check.same("over several texts", Check.clauses(desk), "P($1) P(x) Q($2)");
-        check.words("the variables that the ! and ? around it have become, the outermost first");
+        check.words("the ! and ? around it have become, the outermost first");
         row("?xP(x)", "P($1)");
         row("!x?yP(y,x)", "P($1(x),x)");
         row("!x!y?zP(z,y,x)", "P($1(x,y),y,x)");
@@ -150,14 +151,15 @@ public final class SearchBoundsTest {
         check.words("and a weight of at most 16");
         RefutationDesk desk = desk("P(a,a,a,a,a,a,a,a,a,a,a,a,a,a,a)");
         check.same("16 of one literal", desk.clause(0, 2), 16);
-        check.same("17 of one literal", Check.assume(desk, "Q(a,a,a,a,a,a,a,a,a,a,a,a,a,a,a,a)"), 0);
+        check.same("17 of one literal",
+                Check.assume(desk, "Q(a,a,a,a,a,a,a,a,a,a,a,a,a,a,a,a)"), 0);
         check.same("left out", desk.figure(4), 1);
         check.same("16 of four", Check.assume(desk, "|||A(a,a,a)B(a,a,a)C(a,a,a)D(a,a,a)"), 1);
         check.same("weight", desk.clause(1, 2), 16);
         check.same("17 of four", Check.assume(desk, "|||E(a,a,a)F(a,a,a)G(a,a,a)H(a,a,a,a)"), 0);
         check.same("left out", desk.figure(4), 2);
-        check.same("variables weigh, too", Check.assume(desk, "!x!y|~I(x,y,f(x))J(f(f(f(x))),y,x,y)"),
-                1);
+        check.same("variables weigh, too",
+                Check.assume(desk, "!x!y|~I(x,y,f(x))J(f(f(f(x))),y,x,y)"), 1);
         check.same("weight", desk.clause(2, 2), 13);
         check.same("~ does not", Check.assume(desk, "|~K~L"), 1);
         check.same("weight", desk.clause(3, 2), 2);
@@ -264,8 +266,8 @@ public final class SearchBoundsTest {
     }
 
     private static void leftOutComesFirst() {
-        check.words("if it does not fit, it is LEFT OUT; otherwise, if it has two opposite literals,"
-                + " it is TRUE");
+        check.words("if it does not fit, it is LEFT OUT; otherwise,"
+                + " if it has two opposite literals, it is TRUE");
         RefutationDesk desk = desk("A");
         Check.assume(desk, "||||ABCD~A");
         check.same("left out", desk.figure(4), 1);
@@ -278,8 +280,8 @@ public final class SearchBoundsTest {
     }
 
     private static void trueComesBeforeKnown() {
-        check.words("it is TRUE; otherwise, if some clause that waits or is active subsumes it, it is"
-                + " KNOWN");
+        check.words("it is TRUE; otherwise,"
+                + " if some clause that waits or is active subsumes it, it is KNOWN");
         RefutationDesk desk = desk("A");
         Check.assume(desk, "|A~A");
         check.same("true", desk.figure(5), 1);
@@ -456,7 +458,8 @@ public final class SearchBoundsTest {
         check.same("its factor, then a resolvent too many", desk.figure(0), 100);
         check.same("the factor", Check.clauseText(desk, 99), "Q(x)|~P(x)");
         check.same("full", desk.state(), RefutationDesk.FULL);
-        check.same("nothing more was looked at", desk.figure(4) + desk.figure(5) + desk.figure(6), 0);
+        check.same("nothing more was looked at",
+                desk.figure(4) + desk.figure(5) + desk.figure(6), 0);
         RefutationDesk factor = Desks.with(99);
         factor.run(50);
         factor.run(49);
@@ -471,8 +474,8 @@ public final class SearchBoundsTest {
 
     /** The empty clause as the hundredth, and as one too many. */
     private static void refutedOrFull() {
-        check.words("THE STATE is REFUTED if the empty clause is kept; otherwise FULL if it was full"
-                + " once");
+        check.words("THE STATE is REFUTED if the empty clause is kept;"
+                + " otherwise FULL if it was full once");
         RefutationDesk last = Desks.with(98);
         Check.deny(last, "P(a)");
         check.same("two steps", last.run(2), 2);
@@ -495,8 +498,8 @@ public final class SearchBoundsTest {
     }
 
     private static void openOrNot() {
-        check.words("otherwise OPEN if a clause waits; otherwise SATURATED if none was ever left out,"
-                + " otherwise EXHAUSTED");
+        check.words("otherwise OPEN if a clause waits;"
+                + " otherwise SATURATED if none was ever left out, otherwise EXHAUSTED");
         RefutationDesk desk = desk("P");
         check.same("one waits", desk.state(), RefutationDesk.OPEN);
         desk.step();

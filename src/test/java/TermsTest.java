@@ -211,7 +211,12 @@ public final class TermsTest {
         String fourteen = "f(".repeat(14) + "a" + ")".repeat(14);
         String fifteen = "f(".repeat(15) + "a" + ")".repeat(15);
         row("P(" + fourteen + ")", "P(" + fourteen + ")");
-        line("P(" + "f(".repeat(13) + "x" + ")".repeat(14), "P(" + "f(".repeat(13) + "x" + ")".repeat(14));
+        String inLine = "P(" + "f(".repeat(13) + "x" + ")".repeat(14);
+        line(inLine, inLine);
+        RefutationDesk whole = new RefutationDesk();
+        Check.assume(whole, "!xP(x)");
+        check.same("fourteen in a clause",
+                Check.claim(whole, "P(" + fourteen + ")", -1, 0, 0, 0), 0);
         neither("P(" + fifteen + ")", 31);
         neither("P(a," + fifteen + ")", 33);
         neither("P(" + "f(".repeat(15), 31);
