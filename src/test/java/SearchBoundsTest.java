@@ -100,6 +100,9 @@ public final class SearchBoundsTest {
         row("||PQP", "P|Q");
         row("||QPP", "Q|P");
         row("|||||||PQPQPQPQ", "P|Q");
+        row("|P|P|P|P|P|P|PQ", "P|Q");
+        row("|P|P|P|P|P|P|P&QR", "P|Q P|R");
+        row("|||||||&PQRRRRRRR", "P|R Q|R");
         row("!x!y||P(x)P(y)P(x)", "P(x)|P(y)");
         row("|P(f(a))P(f(a))", "P(f(a))");
         row("|P(f(a))P(f(b))", "P(f(a))|P(f(b))");
@@ -219,6 +222,12 @@ public final class SearchBoundsTest {
         drawn("!x!yP(x,y,f(y)) !x~P(f(x),x,x)", 2);
         drawn("!xP(f(x)) ~P(f)", 2);
         drawn("!xP(f(x)) !x~P(f(x,x))", 2);
+        // f twenty-one times around z, of which neither clause has more than eleven
+        String nine = "f(".repeat(9) + "z" + ")".repeat(9);
+        String eleven = "f(".repeat(11) + "x" + ")".repeat(11);
+        String deep = "!x!y~P(x," + eleven + ",y,y)";
+        drawn("!z!xP(" + nine + ",x,f(x),f(x)) " + deep, 3);
+        drawn("!z!xP(" + nine + ",x,f(x),z) " + deep, 2);
     }
 
     private static void variablesOfBoth() {
