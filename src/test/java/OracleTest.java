@@ -13,7 +13,7 @@ public final class OracleTest {
     private Talk talk;
 
     /** How the texts of a run are made: the kinds of symbols lead to different ends. */
-    private enum Talk { LETTERS, RELATION, MIXED, NESTED, CLAUSES, WIDE, MANY }
+    private enum Talk { LETTERS, RELATION, MIXED, NESTED, CLAUSES, WIDE, MANY, LIMITS }
 
     public static void main(String[] args) {
         OracleTest test = new OracleTest();
@@ -74,7 +74,8 @@ public final class OracleTest {
 
     private void assume() {
         boolean asClause = talk == Talk.CLAUSES || talk == Talk.WIDE || talk == Talk.MANY;
-        type(spoiled(asClause ? closedClause() : formula(1 + random.nextInt(6), "")));
+        type(spoiled(asClause ? closedClause() : talk == Talk.LIMITS ? nearLimits()
+                : formula(1 + random.nextInt(6), "")));
         boolean denied = !asClause && random.nextBoolean();
         agree("assume " + denied, () -> desk.assume(denied), () -> plain.assume(denied));
         wipeSometimes();
@@ -120,6 +121,9 @@ public final class OracleTest {
 
     /** An instance, a clause with more or with other literals, or the same. */
     private String changed(String clause) {
+        if (talk == Talk.LIMITS && random.nextInt(3) == 0) {
+            return deepAtom("y1");
+        }
         switch (random.nextInt(9)) {
             case 0: return clause.replace('x', 'a');
             case 1: return clause.replace('y', 'x');
@@ -207,6 +211,36 @@ public final class OracleTest {
         }
     }
 
+    /** A text with some more, or some fewer, of what the document limits than may be. */
+    private String nearLimits() {
+        switch (random.nextInt(5)) {
+            case 0: return spread(6 + random.nextInt(10));
+            case 1: return "~".repeat(8 + random.nextInt(4)) + pick("PQ");
+            case 2: return "!x" + deepAtom("x");
+            default:
+                StringBuilder text = new StringBuilder();
+                int count = 6 + random.nextInt(6);
+                for (int n = 0; n < count; n++) {
+                    text.append(pick("!??")).append(pick("xyz"));
+                }
+                return text + "" + pick("PQ") + (random.nextBoolean() ? "(x)" : "(y,z)");
+        }
+    }
+
+    /** Atoms under & and |, so that there are some sixteen rows, or some of eight literals. */
+    private String spread(int atoms) {
+        if (atoms == 1) {
+            return "" + pick("PQRSTU");
+        }
+        int first = 1 + random.nextInt(atoms - 1);
+        return pick("&|>") + spread(first) + spread(atoms - first);
+    }
+
+    private String deepAtom(String innermost) {
+        int count = 12 + random.nextInt(4);
+        return "P(" + "f(".repeat(count) + innermost + ")".repeat(count) + ")";
+    }
+
     /** A text that with others like it has very many consequences, none of them empty. */
     private String manyClause() {
         String fact = "P(" + term("", 0) + "," + term("", 0) + ")";
@@ -241,7 +275,7 @@ public final class OracleTest {
     }
 
     private String atom(String variables) {
-        if (talk == Talk.LETTERS) {
+        if (talk == Talk.LETTERS || talk == Talk.LIMITS) {
             return "" + pick("PQRSTU");
         }
         char name = pick(talk == Talk.RELATION ? "P" : "PPQR");
